@@ -26,6 +26,7 @@ public final class StairPlans {
     private final Fraction gapFraction;
     private long total;
     private boolean planned;
+    // Only ever true while a stair is planned: whatever ends a plan ends its gap too.
     private boolean gapFound;
 
     public StairPlans() {
@@ -187,7 +188,6 @@ public final class StairPlans {
     }
 
     public long gap(int part) throws IllegalStateException, IndexOutOfBoundsException {
-        requirePlan();
         if (!gapFound) {
             throw new IllegalStateException("no balusters were found for this stair");
         }
@@ -411,6 +411,7 @@ public final class StairPlans {
         private static final int MOST_FLOORS = 8;
         private static final long FARTHEST = 1000000;
         private static final long HIGHEST = 1000000;
+        private static final long GREATEST_LONG = 0x7fffffffffffffffL;
 
         private final long[] x0 = new long[MOST_FLOORS];
         private final long[] y0 = new long[MOST_FLOORS];
@@ -441,7 +442,7 @@ public final class StairPlans {
         }
 
         long leastRoomTimesRises(Stair stair) {
-            long least = Long.MAX_VALUE;
+            long least = GREATEST_LONG;
             for (int i = 0; i < count && i < MOST_FLOORS; i++) {
                 for (int k = 0; k < stair.treads(); k++) {
                     if (isOver(i, stair, k)) {
@@ -552,7 +553,6 @@ public final class StairPlans {
 
         void clear() {
             length = 0;
-            place = 0;
         }
 
         /** Whether the whole text is rules; if not, the place is the one where it goes wrong. */

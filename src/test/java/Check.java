@@ -54,6 +54,20 @@ final class Check {
         return plans;
     }
 
+    /** Every call that tells of a stair refuses to. */
+    static void notPlanned(StairPlans plans) {
+        due(STATE, "rise", () -> plans.rise(0));
+        due(STATE, "step", () -> plans.step(0, 0));
+        due(STATE, "winder", () -> plans.winder(0, 0));
+        due(STATE, "area", () -> plans.area(0));
+        due(STATE, "meets", () -> plans.meets(0));
+        due(STATE, "headRoom", () -> plans.headRoom());
+        due(STATE, "string", () -> plans.string(0));
+        due(STATE, "balusters", () -> plans.balusters(1, 1));
+        due(STATE, "gap", () -> plans.gap(0));
+        due(STATE, "list", () -> plans.list(0));
+    }
+
     static void end(String name) {
         System.out.println(name + ": " + made + " answers, " + wrong + " wrong");
         if (wrong != 0 || made == 0) {

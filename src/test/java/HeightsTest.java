@@ -24,16 +24,7 @@ public final class HeightsTest {
         plans.balusters(1, 10);
         Check.due(true, "heights(101)", () -> plans.heights(101));
         Check.due(true, "heights(100)", () -> plans.heights(100));
-        Check.due(Check.STATE, "rise", () -> plans.rise(0));
-        Check.due(Check.STATE, "step", () -> plans.step(0, 0));
-        Check.due(Check.STATE, "winder", () -> plans.winder(0, 0));
-        Check.due(Check.STATE, "area", () -> plans.area(0));
-        Check.due(Check.STATE, "meets", () -> plans.meets(0));
-        Check.due(Check.STATE, "headRoom", () -> plans.headRoom());
-        Check.due(Check.STATE, "string", () -> plans.string(0));
-        Check.due(Check.STATE, "balusters", () -> plans.balusters(1, 1));
-        Check.due(Check.STATE, "gap", () -> plans.gap(0));
-        Check.due(Check.STATE, "list", () -> plans.list(0));
+        Check.notPlanned(plans);
         Check.due(5, "run", () -> plans.run(0, 10, 10));
         Check.due(20, "rise(0)", () -> plans.rise(0));
     }

@@ -21,16 +21,7 @@ public final class NewObjectTest {
         StairPlans plans = new StairPlans();
         Check.due(Check.STATE, "run", () -> plans.run(0, 1, 1));
         Check.due(Check.STATE, "run(9, 0, 0)", () -> plans.run(9, 0, 0));
-        Check.due(Check.STATE, "rise", () -> plans.rise(0));
-        Check.due(Check.STATE, "step", () -> plans.step(0, 0));
-        Check.due(Check.STATE, "winder", () -> plans.winder(0, 0));
-        Check.due(Check.STATE, "area", () -> plans.area(0));
-        Check.due(Check.STATE, "meets", () -> plans.meets(0));
-        Check.due(Check.STATE, "headRoom", () -> plans.headRoom());
-        Check.due(Check.STATE, "string", () -> plans.string(0));
-        Check.due(Check.STATE, "balusters", () -> plans.balusters(1, 1));
-        Check.due(Check.STATE, "gap", () -> plans.gap(0));
-        Check.due(Check.STATE, "list", () -> plans.list(0));
+        Check.notPlanned(plans);
     }
 
     private static void textAndFloorsAreEmpty() {

@@ -6,6 +6,7 @@ public final class RulesTest {
         endsTooEarly();
         failureKeepsRulesAndPlan();
         successEndsThePlan();
+        nothingIsLeftOfRulesBefore();
         Check.end("RulesTest");
     }
 
@@ -81,20 +82,21 @@ public final class RulesTest {
         StairPlans plans = Check.planned(100, 5, 2, 10, 10);
         plans.balusters(1, 10);
         Check.due(1, "rules() of the same text", () -> Check.read(plans, "n=5"));
-        Check.due(Check.STATE, "rise", () -> plans.rise(0));
-        Check.due(Check.STATE, "step", () -> plans.step(0, 0));
-        Check.due(Check.STATE, "winder", () -> plans.winder(0, 0));
-        Check.due(Check.STATE, "area", () -> plans.area(0));
-        Check.due(Check.STATE, "meets", () -> plans.meets(0));
-        Check.due(Check.STATE, "headRoom", () -> plans.headRoom());
-        Check.due(Check.STATE, "string", () -> plans.string(0));
-        Check.due(Check.STATE, "balusters", () -> plans.balusters(1, 1));
-        Check.due(Check.STATE, "gap", () -> plans.gap(0));
-        Check.due(Check.STATE, "list", () -> plans.list(0));
+        Check.notPlanned(plans);
         // Fewer rules than before: those behind the new ones are gone.
         Check.due(2, "rules() of two", () -> Check.read(plans, "2n+3n=25;n<9"));
         Check.due(1, "rules() of one", () -> Check.read(plans, "n=7"));
         Check.due(7, "run by one", () -> plans.run(0, 1, 1));
         Check.due(Check.INDEX, "meets(1)", () -> plans.meets(1));
+    }
+
+    private static void nothingIsLeftOfRulesBefore() {
+        StairPlans plans = new StairPlans();
+        for (String letter : "r g n w t".split(" ")) {
+            Check.read(plans, "90" + letter + "+9r>1;90" + letter + "+9g<1");
+            Check.read(plans, "90" + letter + "+9w>1;90" + letter + "+9t<1;n");
+            Check.due(2, "rules() behind those of " + letter, () -> Check.read(plans, "0r=0;0g=0"));
+            Check.due(1, "run() behind rules of " + letter, () -> plans.run(0, 1, 1));
+        }
     }
 }

@@ -86,16 +86,7 @@ public final class RunTest {
         Check.due(2, "run(0, 10, 10)", () -> plans.run(0, 10, 10));
         plans.balusters(1, 10);
         Check.due(-1, "run(2, 10, 10)", () -> plans.run(2, 10, 10));
-        Check.due(Check.STATE, "rise", () -> plans.rise(0));
-        Check.due(Check.STATE, "step", () -> plans.step(0, 0));
-        Check.due(Check.STATE, "winder", () -> plans.winder(0, 0));
-        Check.due(Check.STATE, "area", () -> plans.area(0));
-        Check.due(Check.STATE, "meets", () -> plans.meets(0));
-        Check.due(Check.STATE, "headRoom", () -> plans.headRoom());
-        Check.due(Check.STATE, "string", () -> plans.string(0));
-        Check.due(Check.STATE, "balusters", () -> plans.balusters(1, 1));
-        Check.due(Check.STATE, "gap", () -> plans.gap(0));
-        Check.due(Check.STATE, "list", () -> plans.list(0));
+        Check.notPlanned(plans);
     }
 
     private static void wrongArguments() {
