@@ -12,20 +12,35 @@ import java.util.stream.Collectors;
 
 /** The public face, and those rules of LANGUAGE.md that can be seen in the class or in its text. */
 public final class FaceTest {
+    private static final String STATE = "IllegalStateException";
+    private static final String INDEX = "IndexOutOfBoundsException";
+    private static final String ARGUMENT = "IllegalArgumentException";
     private static final String[] FACE = {
-        "boolean floor(long, long, long, long, long)", "boolean heights(long)", "boolean meets(int)",
-        "boolean unit(int)", "int balusters(long, long)", "int list(int)", "int rules()", "int run(int, long, long)",
-        "long area(int)", "long gap(int)", "long headRoom()", "long rise(int)", "long step(int, int)",
-        "long string(int)", "long winder(int, int)",
+        "boolean heights(long) throws " + ARGUMENT,
+        "boolean unit(int)",
+        "int rules()",
+        "int run(int, long, long) throws " + STATE + ", " + ARGUMENT,
+        "long rise(int) throws " + STATE + ", " + INDEX,
+        "long step(int, int) throws " + STATE + ", " + INDEX + ", " + ARGUMENT,
+        "long winder(int, int) throws " + STATE + ", " + INDEX,
+        "long area(int) throws " + STATE + ", " + INDEX,
+        "boolean meets(int) throws " + STATE + ", " + INDEX,
+        "boolean floor(long, long, long, long, long) throws " + ARGUMENT,
+        "long headRoom() throws " + STATE,
+        "long string(int) throws " + STATE + ", " + INDEX,
+        "int balusters(long, long) throws " + STATE + ", " + ARGUMENT,
+        "long gap(int) throws " + STATE + ", " + INDEX,
+        "int list(int) throws " + STATE + ", " + INDEX,
     };
 
     public static void main(String[] args) throws IOException {
+        Check.sentence("The public face");
         Class<StairPlans> face = StairPlans.class;
         Check.due(true, "StairPlans is public and final",
                 () -> Modifier.isPublic(face.getModifiers()) && Modifier.isFinal(face.getModifiers()));
         Check.due("[StairPlans()]", "what is seen of the constructors", () -> seenConstructors(face));
         Check.due(new TreeSet<>(Arrays.asList(FACE)), "what is seen of the methods", () -> seenMethods(face));
-        Check.due("[NONE]", "what is seen of the fields", () -> seenFields(face));
+        Check.due("[public static final int NONE]", "what is seen of the fields", () -> seenFields(face));
         Check.due(true, "the classes inside are static, and none is public or protected",
                 () -> Arrays.stream(face.getDeclaredClasses()).allMatch(FaceTest::mayStandInside));
         for (Class<?> inside : face.getDeclaredClasses()) {
@@ -49,7 +64,10 @@ public final class FaceTest {
         Set<String> seen = new TreeSet<>();
         for (Method method : face.getDeclaredMethods()) {
             if (!Modifier.isPrivate(method.getModifiers())) {
-                seen.add(method.getReturnType() + " " + method.getName() + parameters(method.getParameterTypes()));
+                String kept = method.getReturnType() + " " + method.getName() + parameters(method.getParameterTypes())
+                        + exceptions(method.getExceptionTypes());
+                boolean plain = method.getModifiers() == Modifier.PUBLIC;
+                seen.add(plain ? kept : Modifier.toString(method.getModifiers()) + " " + kept);
             }
         }
         return seen;
@@ -59,7 +77,7 @@ public final class FaceTest {
         Set<String> seen = new TreeSet<>();
         for (Field field : face.getDeclaredFields()) {
             if (!Modifier.isPrivate(field.getModifiers())) {
-                seen.add(field.getName());
+                seen.add(Modifier.toString(field.getModifiers()) + " " + field.getType() + " " + field.getName());
             }
         }
         return seen;
@@ -67,6 +85,11 @@ public final class FaceTest {
 
     private static String parameters(Class<?>[] types) {
         return Arrays.stream(types).map(Class::getName).collect(Collectors.joining(", ", "(", ")"));
+    }
+
+    private static String exceptions(Class<?>[] types) {
+        return types.length == 0 ? "" : Arrays.stream(types).map(Class::getSimpleName)
+                .collect(Collectors.joining(", ", " throws ", ""));
     }
 
     private static boolean mayStandInside(Class<?> inside) {
