@@ -11,6 +11,7 @@ public final class GapTest {
         anotherStair();
         sameStairAgain();
         notPlannedAnyMore();
+        noStairFound();
         noSuchPart();
         Check.end("GapTest");
     }
@@ -124,6 +125,24 @@ public final class GapTest {
         read.balusters(4, 11);
         Check.read(read, "n=15");
         Check.due(Check.STATE, "gap(0) behind rules()", () -> read.gap(0));
+        StairPlans same = Check.planned(270, 15, 0, 28, 90);
+        same.balusters(4, 11);
+        same.heights(270);
+        Check.read(same, "n=15;");
+        Check.due(32, "gap(0) behind the same TOTAL and a text that is refused", () -> same.gap(0));
+    }
+
+    private static void noStairFound() {
+        Check.sentence("-1 less a RULE, if there is none (then it is not PLANNED) (gap)");
+        StairPlans plans = Check.withRules("n<4");
+        Check.due(1, "run(0, 28, 90)", () -> plans.run(0, 28, 90));
+        plans.balusters(4, 11);
+        Check.due(-1, "run(2, 28, 90)", () -> plans.run(2, 28, 90));
+        for (int part : new int[] {0, 1, -1, 2}) {
+            Check.due(Check.STATE, "gap(" + part + ") when no stair was found", () -> plans.gap(part));
+        }
+        plans.run(0, 28, 90);
+        Check.due(Check.STATE, "gap(0) when the stair of before was PLANNED again", () -> plans.gap(0));
     }
 
     private static void noSuchPart() {
